@@ -368,6 +368,7 @@ final class Model {
     // ---- the text
 
     private static final class Faulty extends Exception {
+        private static final long serialVersionUID = 1L;
         final int number;
         final int place;
 
