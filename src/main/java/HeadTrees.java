@@ -20,6 +20,8 @@ public final class HeadTrees {
     private static final int MOST_WEIGHT = 99;
     private static final int MOST_UNDONE = 10;
     private static final long MOST_WAYS = 1_000_000_000_000L;
+    // More than any TREE can break: 23 joinings, less than 20,000 each.
+    private static final int BEYOND = 1_000_000_000;
 
     private static final int RULES = 6;
     private static final int STRONG = 0;
@@ -1118,7 +1120,7 @@ public final class HeadTrees {
             int left = row(i, i) + h;
             int right = row(i + 1, j) + h;
             int uneven = i - j + 1;
-            int least = Integer.MAX_VALUE;
+            int least = BEYOND;
             for (int s = i; s < j; s++) {
                 int sum = cells[left] + cells[right] + even * (uneven < 0 ? -uneven : uneven);
                 if (sum < least) {
@@ -1609,10 +1611,11 @@ public final class HeadTrees {
             // Each turn learns a WEIGHT or goes on to an end: at most twice as many turns.
             for (int turn = 0; turn < 2 * WEIGHTS && pile > 0; turn++) {
                 int high = ends[pile - 1];
-                if (isOneLine(rule, low, high)) {
+                boolean oneLine = isOneLine(rule, low, high);
+                if (oneLine) {
                     copyBetween(rule, low, high);
                 }
-                if (high - low <= 1 || isOneLine(rule, low, high)) {
+                if (oneLine || high - low <= 1) {
                     low = high;
                     pile--;
                 } else {

@@ -145,6 +145,41 @@ public final class ActsTest {
         Check.due("a new PIECE has nothing to undo", x.undo(), false);
     }
 
+    /** Of twelve ACTS of all kinds the first two are forgotten. */
+    private static void undoOfAllKinds() {
+        HeadTrees x = Check.of(TEXT);
+        x.weigh(4, 1);
+        x.pitch(2, 90);
+        x.last(1, 3);
+        x.key(4);
+        x.move(-3);
+        x.weigh(5, 8);
+        x.pitch(1, 11);
+        x.last(0, 5);
+        x.key(9);
+        x.move(2);
+        x.weigh(0, 6);
+        x.pitch(0, 44);
+        int[][] told = {{59, 13, 89, 5, 3, 9, 6, 8}, {59, 13, 89, 5, 3, 9, 0, 8}, {57, 11, 87, 5, 3, 9, 0, 8},
+            {57, 11, 87, 5, 3, 4, 0, 8}, {57, 11, 87, 2, 3, 4, 0, 8}, {57, 69, 87, 2, 3, 4, 0, 8},
+            {57, 69, 87, 2, 3, 4, 0, 3}, {60, 72, 90, 2, 3, 4, 0, 3}, {60, 72, 90, 2, 3, 0, 0, 3},
+            {60, 72, 90, 2, 1, 0, 0, 3}};
+        for (int[] due : told) {
+            Check.due("undo()", x.undo(), true);
+            Check.due("PITCH of 0", x.note(0, 0), due[0]);
+            Check.due("PITCH of 1", x.note(1, 0), due[1]);
+            Check.due("PITCH of 2", x.note(2, 0), due[2]);
+            Check.due("LONG of 0", x.note(0, 1), due[3]);
+            Check.due("LONG of 1", x.note(1, 1), due[4]);
+            Check.due("KEY", x.about(2), due[5]);
+            Check.due("WEIGHT of strong", x.weight(0), due[6]);
+            Check.due("WEIGHT of close", x.weight(5), due[7]);
+        }
+        Check.due("undo()", x.undo(), false);
+        Check.due("PITCH of 2", x.note(2, 0), 90);
+        Check.due("WEIGHT of even", x.weight(4), 1);
+    }
+
     private static void withoutPiece() {
         HeadTrees x = new HeadTrees();
         Check.refused(x, "pitch", x.pitch(0, 100), 1);
@@ -184,6 +219,7 @@ public final class ActsTest {
         key();
         move();
         undo();
+        undoOfAllKinds();
         withoutPiece();
         sizesAndTrouble();
         Check.end("ActsTest");

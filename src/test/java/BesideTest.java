@@ -52,6 +52,11 @@ public final class BesideTest {
         Check.due("the least first", x.twin(1), 1);
         Check.due("then the least other", x.twin(2), 3);
         Check.due("not those that overlap, nor the last NOTE", x.twin(0), 2);
+        x = Check.of("piece bar 1 beat 1 key 0;note 1 long 3;note 1 long 1;note 1 long 2;note 1 long 1;"
+                + "note 1 long 7");
+        Check.granted(x, "TWINS of one NOTE", x.twin(0), 1);
+        Check.granted(x, "the one", x.twin(1), 1);
+        Check.granted(x, "the other", x.twin(2), 3);
         x = Check.of("piece bar 1 beat 1 key 0;note 1 long 1;note 1 long 2;note 1 long 1");
         Check.granted(x, "the last NOTE has no TWIN", x.twin(0), 0);
         Check.granted(x, "twin(1) without any", x.twin(1), -2);

@@ -46,8 +46,10 @@ public final class EnumerationTest {
     private final int[] length;
     private final int[] weights = new int[6];
     private final HeadTrees x;
+    private final int order;
 
     private EnumerationTest(Random random) {
+        order = random.nextInt(3);
         n = 1 + random.nextInt(6);
         bar = 1 + random.nextInt(6);
         beat = 1 + random.nextInt(bar);
@@ -171,12 +173,28 @@ public final class EnumerationTest {
 
     private void weights(List<Tree> trees, int rule) {
         Tree[] bests = new Tree[100];
+        int[] breaks = new int[100];
         for (int w = 0; w < 100; w++) {
             int[] other = weights.clone();
             other[rule] = w;
             bests[w] = best(trees, other);
-            Check.due("swayed", x.swayed(rule, w), bests[w].breaks(other));
+            breaks[w] = bests[w].breaks(other);
         }
+        // In another order each time: one call may leave what helps the next.
+        for (int t = order; t < order + 3; t++) {
+            if (t % 3 == 0) {
+                firm(rule, bests);
+            } else if (t % 3 == 1) {
+                sways(rule, bests);
+            } else {
+                for (int w = 0; w < 100; w++) {
+                    Check.due("swayed", x.swayed(rule, w), breaks[w]);
+                }
+            }
+        }
+    }
+
+    private void firm(int rule, Tree[] bests) {
         int low = weights[rule];
         int high = low;
         while (low > 0 && bests[low - 1] == bests[low]) {
@@ -187,6 +205,9 @@ public final class EnumerationTest {
         }
         Check.due("firm down", x.firm(rule, false), low);
         Check.due("firm up", x.firm(rule, true), high);
+    }
+
+    private void sways(int rule, Tree[] bests) {
         for (int k = 0; k < n; k++) {
             int sways = -2;
             for (int w = 99; w >= 0; w--) {

@@ -76,6 +76,11 @@ public final class TextTest {
         faulty("4", 1, 0);
         faulty(";", 1, 0);
         faulty("Piece", 1, 0);
+        faulty("xiece bar 4 beat 1 key 0;note 1 long 1", 1, 0);
+        faulty("piecf bar 4 beat 1 key 0;note 1 long 1", 1, 0);
+        faulty("z", 1, 0);
+        faulty("zzzzzzz", 1, 0);
+        faulty(HEAD + ";rule strongz 1", 1, 30);
         faulty("pieces", 1, 0);
         faulty("piece", 1, 5);
         faulty("piece  ", 1, 7);
@@ -128,7 +133,13 @@ public final class TextTest {
         faulty(HEAD, 5, 24);
         faulty(HEAD + "  ", 5, 26);
         faulty(HEAD + ";rule even 1", 5, 36);
-        Check.due("24 NOTES are not too many", Check.read(new HeadTrees(), many.toString()), 24);
+        HeadTrees x = Check.of(many.toString());
+        Check.due("24 NOTES are not too many", x.about(3), 24);
+        Check.due("LONG of all", x.about(4), 24);
+        Check.due("the last NOTE", x.note(23, 2), 23);
+        Check.due("move(98)", x.move(98), 0);
+        Check.due("the last NOTE", x.note(23, 0), 99);
+        Check.due("climax", x.climax(x.deepest()), 0);
     }
 
     private static void fair() {
@@ -141,12 +152,34 @@ public final class TextTest {
             Check.due("fault() of " + text, x.fault(), 0);
             Check.due("where() of " + text, x.where(), -1);
         }
+        Check.read(x, HEAD + NOTE + NOTE + ";rule strong 9;rule even 9");
         x.pitch(0, 3);
         x.keep();
-        Check.read(x, HEAD + NOTE);
+        Check.granted(x, "piece again", Check.read(x, HEAD + NOTE), 1);
+        Check.due("LONG of all", x.about(4), 1);
+        Check.due("RULES of all", x.about(5), 0);
+        Check.due("RULES not told again are 0", x.weight(0), 0);
         Check.due("nothing to undo", x.size(1), 0);
         Check.due("no ANALYSIS kept", x.size(2), 0);
         Check.due("RULES not told again are 0", x.weight(4), 0);
+    }
+
+    /** Bytes behind the n-th belong to no TOKEN, even if they stand together with it. */
+    private static void cut() {
+        String text = HEAD + ";note 12 long 34;rule strong 56";
+        HeadTrees x = new HeadTrees();
+        Check.feedAll(x, text);
+        Check.granted(x, "piece(39)", x.piece(39), 1);
+        Check.due("LONG", x.note(0, 1), 3);
+        Check.feedAll(x, text);
+        Check.granted(x, "piece(40)", x.piece(40), 1);
+        Check.due("LONG", x.note(0, 1), 34);
+        Check.feedAll(x, text);
+        Check.refused(x, "piece(51)", x.piece(51), 4);
+        Check.due("where()", x.where(), 46);
+        Check.feedAll(x, text);
+        Check.refused(x, "piece(52)", x.piece(52), 4);
+        Check.due("where()", x.where(), 52);
     }
 
     private static void whatIsTold() {
@@ -208,6 +241,7 @@ public final class TextTest {
         form();
         otherFaults();
         fair();
+        cut();
         whatIsTold();
         strengths();
         stables();

@@ -163,6 +163,20 @@ public final class TreeTest {
         Check.refused(x, "over(-1, 0)", x.over(-1, 0), 1);
     }
 
+    private static void twoNotesOver() {
+        HeadTrees x = Check.of(HEAD + ";note 60 long 4;note 62 long 1;note 64 long 1;note 67 long 2"
+                + ";rule even 9;rule long 1");
+        int[][] over = {{0, 0, 0, 0}, {0, 1, 0, 0}, {0, 0, 2, 3}, {0, 0, 3, 3}};
+        for (int k = 0; k < 4; k++) {
+            for (int other = 0; other < 4; other++) {
+                Check.granted(x, "over " + k + " " + other, x.over(k, other), over[k][other]);
+            }
+        }
+        x = Check.of(HEAD + ";note 60 long 4;note 62 long 1");
+        Check.due("deepest() of two", x.deepest(), 1);
+        Check.due("level(1) of two", x.level(1), 2);
+    }
+
     private static void bare() {
         HeadTrees x = Check.of(PAIRS);
         x.about(9);
@@ -226,6 +240,7 @@ public final class TreeTest {
         melodies();
         echoes();
         underAndOver();
+        twoNotesOver();
         bare();
         oneNote();
         withoutPiece();

@@ -78,6 +78,15 @@ public final class WeightsTest {
         Check.granted(x, "swayed(0, 99) again", x.swayed(0, 99), 10);
         x.last(1, 2);
         Check.granted(x, "swayed(0, 99) by another LONG", x.swayed(0, 99), 5);
+        x = Check.of(TWO + ";rule step 3");
+        Check.granted(x, "swayed(0, 0)", x.swayed(0, 0), 0);
+        x.pitch(0, 70);
+        Check.granted(x, "swayed(0, 0) behind an ACT", x.swayed(0, 0), 24);
+        x.undo();
+        Check.granted(x, "sways(0, 0)", x.sways(0, 0), 4);
+        for (int v = 0; v < 100; v++) {
+            Check.granted(x, "swayed behind sways " + v, x.swayed(0, v), Math.min(3 * v, 10));
+        }
     }
 
     private static void wrong() {
