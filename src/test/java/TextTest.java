@@ -140,6 +140,9 @@ public final class TextTest {
         Check.due("move(98)", x.move(98), 0);
         Check.due("the last NOTE", x.note(23, 0), 99);
         Check.due("climax", x.climax(x.deepest()), 0);
+        Check.due("bare(0)", x.bare(0), 23);
+        Check.throwsNone("bare(1)", x, 1);
+        Check.due("the last JOINING", x.joining(22, 4), 23);
     }
 
     private static void fair() {
@@ -162,6 +165,21 @@ public final class TextTest {
         Check.due("nothing to undo", x.size(1), 0);
         Check.due("no ANALYSIS kept", x.size(2), 0);
         Check.due("RULES not told again are 0", x.weight(4), 0);
+    }
+
+    /** Nothing of any PIECE ahead is left, be it the latest one or that ahead of it. */
+    private static void again() {
+        HeadTrees x = new HeadTrees();
+        String rules = ";rule strong 9;rule long 9;rule stable 9;rule step 9;rule even 9;rule close 9";
+        for (int turn = 0; turn < 3; turn++) {
+            Check.granted(x, "piece with RULES", Check.read(x, HEAD + NOTE + NOTE + rules), 2);
+            Check.due("RULES", x.about(5), 6);
+        }
+        for (int turn = 0; turn < 3; turn++) {
+            Check.granted(x, "piece without", Check.read(x, HEAD + NOTE), 1);
+            Check.due("RULES", x.about(5), 0);
+            Check.due("NOTES", x.about(3), 1);
+        }
     }
 
     /** Bytes behind the n-th belong to no TOKEN, even if they stand together with it. */
@@ -241,6 +259,7 @@ public final class TextTest {
         form();
         otherFaults();
         fair();
+        again();
         cut();
         whatIsTold();
         strengths();
