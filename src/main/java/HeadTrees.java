@@ -1016,47 +1016,44 @@ public final class HeadTrees {
             return true;
         }
 
+        // All letters that stand together are one WORD or, if they are too many, none; digits likewise.
         private void advance() {
             at = behind;
             while (at < length && tape[at] == ' ') {
                 at++;
             }
-            behind = at;
-            if (at >= length) {
-                kind = END;
-            } else if (isLetter(at)) {
-                takeWord();
-            } else if (isDigit(at)) {
-                takeWhole();
-            } else {
-                kind = tape[at] == ';' ? SEMICOLON : BAD;
-                behind = at + 1;
-            }
-        }
-
-        // All letters that stand together are one WORD or, if they are too many, none.
-        private void takeWord() {
-            while (behind < length && isLetter(behind)) {
+            kind = kindAt(at);
+            behind = kind == END ? at : at + 1;
+            boolean goesOn = kind == WORD || kind == WHOLE;
+            while (goesOn && behind < length && kindAt(behind) == kind) {
                 behind++;
             }
-            kind = behind - at <= 6 ? WORD : BAD;
-        }
-
-        private void takeWhole() {
-            number = 0;
-            while (behind < length && isDigit(behind)) {
-                number = number * 10 + (tape[behind] - '0');
-                behind++;
+            if (kind == WORD && behind - at > 6 || kind == WHOLE && behind - at > 2) {
+                kind = BAD;
             }
-            kind = behind - at <= 2 ? WHOLE : BAD;
+            number = kind == WHOLE ? numberSaid() : 0;
         }
 
-        private boolean isLetter(int index) {
-            return tape[index] >= 'a' && tape[index] <= 'z';
+        private int kindAt(int index) {
+            if (index >= length) {
+                return END;
+            }
+            int sign = tape[index];
+            if (sign >= 'a' && sign <= 'z') {
+                return WORD;
+            }
+            if (sign >= '0' && sign <= '9') {
+                return WHOLE;
+            }
+            return sign == ';' ? SEMICOLON : BAD;
         }
 
-        private boolean isDigit(int index) {
-            return tape[index] >= '0' && tape[index] <= '9';
+        private int numberSaid() {
+            int said = 0;
+            for (int t = at; t < behind; t++) {
+                said = said * 10 + (tape[t] - '0');
+            }
+            return said;
         }
     }
 
@@ -1173,7 +1170,8 @@ public final class HeadTrees {
         }
 
         int splitAt(int i, int j, int s, int h) {
-            return cell(i, s, h) + cell(s + 1, j, h) + even * Math.abs((s + 1 - i) - (j - s));
+            int uneven = (s + 1 - i) - (j - s);
+            return cells[row(i, s) + h] + cells[row(s + 1, j) + h] + even * Math.abs(uneven);
         }
 
         int leastSplitAt(int i, int j, int s) {
@@ -1194,7 +1192,7 @@ public final class HeadTrees {
         }
 
         int underAt(int i, int j, int h, int u) {
-            return cell(i, j, u) + pairs[h * MOST_NOTES + u];
+            return cells[row(i, j) + u] + pairs[h * MOST_NOTES + u];
         }
 
         /** The HEAD of a part that goes UNDER a NOTE h which isn't in it. */

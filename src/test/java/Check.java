@@ -1,11 +1,32 @@
+import java.util.HashSet;
 import java.util.NoSuchElementException;
+import java.util.Set;
 
 /** What the tests share: an answer beside the one that is due, and texts fed and read. */
 final class Check {
     private static int right = 0;
     private static int wrong = 0;
+    private static final Set<String> SENTENCES = new HashSet<>();
+    private static String sentence = "";
+    private static int answersBefore = 0;
 
     private Check() {
+    }
+
+    /** All answers up to the next sentence are looked at for the sake of this one. */
+    static void sentence(String told) {
+        endSentence();
+        SENTENCES.add(told);
+        sentence = told + " | ";
+        answersBefore = right + wrong;
+    }
+
+    // A sentence that no answer is looked at for would pass whatever the class does.
+    private static void endSentence() {
+        if (!sentence.isEmpty() && right + wrong == answersBefore) {
+            due("a test", 0, 1);
+        }
+        sentence = "";
     }
 
     static void due(String call, long got, long want) {
@@ -16,7 +37,7 @@ final class Check {
         wrong++;
         // The first ones tell enough; a run that goes astray would print thousands.
         if (wrong <= 40) {
-            System.out.println(call + " answered " + got + ", due is " + want);
+            System.out.println(sentence + call + " answered " + got + ", due is " + want);
         }
     }
 
@@ -78,7 +99,9 @@ final class Check {
     }
 
     static void end(String test) {
-        System.out.println(test + ": " + right + " answers as due, " + wrong + " not");
+        endSentence();
+        String told = SENTENCES.isEmpty() ? "" : SENTENCES.size() + " sentences, ";
+        System.out.println(test + ": " + told + right + " answers as due, " + wrong + " not");
         if (wrong != 0) {
             System.exit(1);
         }
