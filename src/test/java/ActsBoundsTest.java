@@ -106,6 +106,7 @@ public final class ActsBoundsTest {
         Check.sentence("44: UNDO: true");
         HeadTrees x = Check.of(TEXT);
         x.pitch(0, 1);
+        Check.refused(x, "pitch(0, 100)", x.pitch(0, 100), 2);
         Check.due("undo()", x.undo(), true);
         Check.due("trouble()", x.trouble(), 0);
         Check.due("PITCH", x.note(0, 0), 60);
@@ -243,6 +244,8 @@ public final class ActsBoundsTest {
         x.undo();
         Check.due("1 of undo()", x.trouble(), 1);
         x.key(1);
+        x.key(12);
+        Check.due("2 of key()", x.trouble(), 2);
         x.undo();
         Check.due("0 of undo()", x.trouble(), 0);
         Check.sentence("III: TROUBLE of the latest call that may be refused (those of which a number is told here)");

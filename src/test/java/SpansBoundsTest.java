@@ -104,24 +104,27 @@ public final class SpansBoundsTest {
     private static void rules() {
         HeadTrees x = Check.of(HEAD + notes(new int[] {60, 61, 64, 72}, new int[] {1, 1, 2, 64})
                 + ";rule strong 1;rule long 1;rule stable 1;rule step 1;rule even 1;rule close 1");
-        Check.sentence("II: 0 strong: by how much UNDER's STRENGTH is greater than HEAD's (0 if it isn't)");
+        Check.sentence("II: 0 strong: by how much UNDER's STRENGTH is greater than HEAD's");
         broken(x, 0, 1, 0, 2);
         broken(x, 0, 2, 0, 1);
         broken(x, 0, 1, 2, 1);
-        broken(x, 0, 0, 3, 0);
-        broken(x, 0, 0, 1, 0);
         Check.sentence("II: 1 long: LONG likewise");
         broken(x, 1, 0, 3, 63);
         broken(x, 1, 0, 2, 1);
-        broken(x, 1, 0, 1, 0);
-        broken(x, 1, 2, 1, 0);
-        broken(x, 1, 3, 0, 0);
         Check.sentence("II: 2 stable: STABLE likewise");
         broken(x, 2, 1, 0, 2);
         broken(x, 2, 1, 2, 1);
         broken(x, 2, 2, 3, 1);
+        Check.sentence("II: (Each 0 if it isn't greater.)");
+        broken(x, 0, 0, 3, 0);
+        broken(x, 0, 0, 1, 0);
+        broken(x, 1, 0, 1, 0);
+        broken(x, 1, 2, 1, 0);
+        broken(x, 1, 3, 0, 0);
         broken(x, 2, 0, 3, 0);
         broken(x, 2, 0, 1, 0);
+        broken(x, 3, 0, 1, 0);
+        broken(x, 3, 1, 0, 0);
         steps(x);
         Check.sentence("II: 4 even: by how many NOTES both parts differ");
         Check.due("1 and 1", x.broken(4, 0, 1, 1, 1), 0);
@@ -156,6 +159,20 @@ public final class SpansBoundsTest {
         broken(x, 3, 0, 3, 10);
     }
 
+    private static void splits() {
+        Check.sentence("II: a SPLIT (the last NOTE of the left part, i .. j - 1)");
+        HeadTrees x = Check.of(alike(4));
+        Check.due("the least", x.split(0, 3), 0);
+        Check.due("of the last two", x.split(2, 3), 2);
+        x = Check.of(HEAD + notes(new int[] {0, 10, 20, 90}, new int[] {1, 2, 3, 4}) + ";rule long 9;rule step 1");
+        Check.due("the most", x.split(0, 3), 2);
+        Check.sentence("II: BREAKS of a TREE: of all its joinings");
+        Check.due("three of them", x.breaks(0, 3), 8 + 8 + 68);
+        Check.due("two of them", x.breaks(0, 2), 8 + 8);
+        Check.due("one of them", x.breaks(2, 3), 68);
+        Check.due("none", x.breaks(3, 3), 0);
+    }
+
     private static void joining(HeadTrees x, int i, int[] want) {
         for (int what = 0; what < want.length; what++) {
             Check.granted(x, "joining " + i + " " + what, x.joining(i, what), want[what]);
@@ -174,6 +191,9 @@ public final class SpansBoundsTest {
         joining(x, 1, new int[] {1, 3, 1, 3, 1, 4});
         Check.due("HEAD of 2 .. 3 alone", x.head(2, 3), 2);
         joining(x, 2, new int[] {2, 3, 2, 3, 2, 0});
+        x = Check.of(HEAD + notes(new int[] {60, 63, 60}, new int[] {2, 3, 1}) + ";rule step 1;rule long 1");
+        Check.due("HEAD of 0 .. 1 alone", x.head(0, 1), 1);
+        joining(x, 1, new int[] {0, 1, 0, 0, 1, 2});
         x = Check.of(alike(3) + ";rule close 1");
         joining(x, 0, new int[] {0, 2, 0, 2, 0, 0});
         joining(x, 1, new int[] {1, 2, 1, 2, 1, 0});
@@ -379,6 +399,7 @@ public final class SpansBoundsTest {
         strengths();
         stables();
         rules();
+        splits();
         leastSplit();
         leastUnder();
         leastHead();

@@ -38,6 +38,10 @@ public final class TextBoundsTest {
         fair(padded(HEAD + NOTE, 700, NOTE), 2);
         faulty(padded(HEAD + NOTE, 700, "x"), 1, 699);
         faulty(padded(HEAD + NOTE, 700, ";"), 1, 700);
+        HeadTrees full = new HeadTrees();
+        Check.feedAll(full, padded(HEAD + NOTE, 720, ""));
+        Check.due("size(0)", full.size(0), 700);
+        Check.refused(full, "piece(701)", full.piece(701), 2);
         Check.sentence("I: blanks, 32, part TOKENS and mean nothing else");
         fair("piece bar4beat1key0;note1long1;rule even9", 1);
         fair("   piece   bar   4   beat   1   key   0   ;   note   1   long   1   ", 1);
@@ -108,6 +112,11 @@ public final class TextBoundsTest {
         told("piece bar 4 beat 1 key 11" + NOTE, 2, 0, 11);
         faulty("piece bar 4 beat 1 key 12" + NOTE, 2, 23);
         faulty("piece bar 4 beat 1 key 99" + NOTE, 2, 23);
+        Check.sentence("I: ahead of all others");
+        fair(HEAD + ";rule even 1;note 1 long 1;rule long 1;note 1 long 1", 2);
+        faulty("rule even 1;" + HEAD + NOTE, 5, 0);
+        faulty("note 1 long 1;" + HEAD + NOTE, 5, 0);
+        faulty(HEAD + NOTE + ";" + HEAD, 3, 39);
         Check.sentence("I: PITCH, 0 .. 99");
         told(HEAD + ";note 0 long 1", -1, 0, 0);
         told(HEAD + ";note 99 long 1", -1, 0, 99);
@@ -153,10 +162,15 @@ public final class TextBoundsTest {
         fair(HEAD + NOTE + ";rule strong 1;rule long 1;rule stable 1;rule step 1;rule even 1;rule close 1", 1);
         Check.sentence("I: those not told: 0");
         x = new HeadTrees();
-        Check.read(x, HEAD + NOTE + ";rule strong 1;rule long 2;rule stable 3;rule step 4;rule even 5;rule close 6");
-        Check.read(x, HEAD + NOTE + ";rule stable 9");
-        for (int rule = 0; rule < 6; rule++) {
-            Check.due("weight " + rule, x.weight(rule), rule == 2 ? 9 : 0);
+        String all = HEAD + NOTE + ";rule strong 1;rule long 2;rule stable 3;rule step 4;rule even 5;rule close 6";
+        // However many PIECES there were, and also texts with a FAULT behind their RULES.
+        for (int turn = 0; turn < 4; turn++) {
+            Check.read(x, turn < 2 ? all : all + ";");
+            Check.read(x, turn % 2 == 0 ? all : all + ";");
+            Check.read(x, HEAD + NOTE + ";rule stable 9");
+            for (int rule = 0; rule < 6; rule++) {
+                Check.due("weight " + rule, x.weight(rule), rule == 2 ? 9 : 0);
+            }
         }
     }
 
@@ -189,7 +203,8 @@ public final class TextBoundsTest {
 
     private static void form() {
         Check.sentence("I: 1 FORM: the first byte that begins no TOKEN");
-        for (int other : new int[] {0, 1, 9, 31, 33, 47, 58, 60, 64, 65, 90, 91, 96, 123, 127, 128, 200, 255}) {
+        for (int other : new int[] {0, 1, 9, 31, 33, 47, 58, 60, 64, 65, 90, 91, 96, 123, 127, 128, 160, 176, 187, 200, 225,
+            240, 255}) {
             faulty((char) other + HEAD + NOTE, 1, 0);
             faulty(HEAD + (char) other + NOTE, 1, 24);
             faulty(HEAD + NOTE + (char) other, 1, 38);

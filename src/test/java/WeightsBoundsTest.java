@@ -96,6 +96,10 @@ public final class WeightsBoundsTest {
         Check.granted(x, "even by 99", x.swayed(4, 99), 50);
         Check.granted(x, "the WEIGHT stays", x.weight(0), 50);
         Check.due("nothing to undo", x.size(1), 0);
+        x.weigh(5, 10);
+        Check.granted(x, "by 99 behind an ACT", x.swayed(0, 99), 10);
+        x.undo();
+        Check.granted(x, "by 99, that undone", x.swayed(0, 99), 50);
         Check.due("of one NOTE", Check.of(ONE).swayed(5, 99), 0);
     }
 
