@@ -5,6 +5,10 @@ import java.util.Random;
 public final class RandomRunsTest {
     private static final int CALLS = 46;
     private static final int THROWN = -77;
+    // An object has 512 calls; so many are kept for the next step of a run.
+    private static final int CALLS_OF_OBJECT = 512;
+    private static final int CALLS_OF_PIECE = 100;
+    private static final int CALLS_OF_STEP = 26;
     private static final int[] ODD = {
         -1, -2, 0, 1, 2, 5, 6, 7, 10, 23, 24, 25, 63, 64, 65, 99, 100, -99, -100, 700, 701,
         Integer.MAX_VALUE, Integer.MIN_VALUE, Integer.MAX_VALUE - 1, 1 << 30, -(1 << 30)};
@@ -15,6 +19,7 @@ public final class RandomRunsTest {
     private final int mostNotes;
     private final int slowOneIn;
     private int notes = 0;
+    private int calls = 0;
 
     private RandomRunsTest(long seed, int mostNotes, int slowOneIn) {
         random = new Random(seed);
@@ -90,6 +95,7 @@ public final class RandomRunsTest {
             text = text.substring(0, 700);
         }
         int clear = x.size(0);
+        calls++;
         same("piece(all)", x.piece(clear), m.piece(clear));
         for (int from = 0; from < text.length(); from += 20) {
             feed(text, from);
@@ -113,6 +119,8 @@ public final class RandomRunsTest {
     }
 
     private void same(String call, long got, long want) {
+        calls += 2;
+        Check.due("within 512 calls", calls <= CALLS_OF_OBJECT, true);
         Check.due(call, got, want);
         Check.due(call + ", trouble()", x.trouble(), m.trouble());
     }
@@ -133,7 +141,9 @@ public final class RandomRunsTest {
         }
     }
 
-    private void call() {
+    private void step() {
+        // Some steps make no call of their own; each is counted, so that a run ends.
+        calls++;
         int which = below(CALLS);
         if (which < 15) {
             callOfSpans(which);
@@ -249,23 +259,23 @@ public final class RandomRunsTest {
     }
 
     private void run() {
-        for (int c = 0; c < 30; c++) {
-            call();
+        for (int c = 0; c < 10; c++) {
+            step();
         }
         newPiece();
-        for (int c = 0; c < 250; c++) {
-            if (oneIn(notes < 1 ? 4 : 60)) {
+        while (calls + CALLS_OF_STEP <= CALLS_OF_OBJECT) {
+            if (oneIn(notes < 1 ? 4 : 60) && calls + CALLS_OF_PIECE + CALLS_OF_STEP <= CALLS_OF_OBJECT) {
                 newPiece();
             }
-            call();
+            step();
         }
     }
 
     public static void main(String[] args) {
-        for (int seed = 0; seed < 900; seed++) {
+        for (int seed = 0; seed < 1500; seed++) {
             new RandomRunsTest(seed, 9, 2).run();
         }
-        for (int seed = 1000; seed < 1080; seed++) {
+        for (int seed = 2000; seed < 2140; seed++) {
             new RandomRunsTest(seed, 24, 12).run();
         }
         Check.end("RandomRunsTest");
