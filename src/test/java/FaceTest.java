@@ -8,6 +8,7 @@ import java.nio.file.Path;
 import java.util.ArrayList;
 import java.util.Arrays;
 import java.util.List;
+import java.util.NoSuchElementException;
 import java.util.Set;
 import java.util.TreeSet;
 
@@ -26,6 +27,8 @@ public final class FaceTest {
         "int unlike(int)", "int keptBreaks()", "int pitch(int,int)", "int last(int,int)",
         "int weigh(int,int)", "int key(int)", "int move(int)", "boolean undo()", "int bare(int)",
         "int size(int)", "int trouble()"};
+
+    private static final Class<?>[] BARE_THROWS = {NoSuchElementException.class};
 
     private static final String[] UNUSED = {
         "try ", "catch", "finally", "synchronized", "assert ", "->", "::", "System.", "Exact(",
@@ -47,6 +50,8 @@ public final class FaceTest {
             if (!Modifier.isPrivate(m.getModifiers())) {
                 open.add(told(m));
                 Check.due(m + " is public", Modifier.isPublic(m.getModifiers()), true);
+                Check.due(m + " tells what it throws", Arrays.equals(m.getExceptionTypes(),
+                        m.getName().equals("bare") ? BARE_THROWS : new Class<?>[0]), true);
             }
         }
         Set<String> due = new TreeSet<>(Arrays.asList(FACE));
